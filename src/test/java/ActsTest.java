@@ -7,6 +7,7 @@ public final class ActsTest {
         setting();
         turningRound();
         takingBack();
+        fourParts();
         sixty();
         days();
         luck();
@@ -72,6 +73,16 @@ public final class ActsTest {
         Check.due("anew", x.anew(), 3);
         speeds("anew", x, 10, 0, -5);
         Check.due("acts", x.count(6), 0);
+    }
+
+    private static void fourParts() {
+        MovingStair x = Check.told("stair odds 0;" + "part steps 1 moves 1;".repeat(3) + "part steps 1 moves 2;");
+        Check.due("all go back", x.reverse(), 4);
+        Check.due("the last", x.part(3, 1), -2);
+        Check.due("set", x.set(3, 9), -2);
+        Check.due("undo", x.undo(), 1);
+        Check.due("undo", x.undo(), 0);
+        Check.due("the last", x.part(3, 1), 2);
     }
 
     private static void sixty() {
@@ -200,6 +211,30 @@ public final class ActsTest {
         Check.due("back to no stair", x.back(0), 0);
         Check.due("no stair", x.reverse(), -2);
         slotsStay();
+        actsOfImages();
+    }
+
+    /** The acts gone back to are those of the image, not those that came in their place. */
+    private static void actsOfImages() {
+        MovingStair x = Check.told(WAY);
+        x.set(0, 1);
+        x.set(0, 2);
+        x.image(0);
+        x.anew();
+        x.reverse();
+        x.set(1, 30);
+        x.back(0);
+        Check.due("undo", x.undo(), 1);
+        speeds("undone", x, 1, 0, -5);
+        Check.due("undo", x.undo(), 0);
+        speeds("undone twice", x, 10, 0, -5);
+        x.reverse();
+        x.image(1);
+        x.undo();
+        x.set(2, 7);
+        x.back(1);
+        Check.due("undo", x.undo(), 0);
+        speeds("turned back", x, 10, 0, -5);
     }
 
     private static void slotsStay() {

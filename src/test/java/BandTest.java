@@ -3,6 +3,7 @@ public final class BandTest {
     public static void main(String[] args) {
         turning();
         leastRow();
+        longest();
         noBands();
         refused();
         streams();
@@ -43,6 +44,23 @@ public final class BandTest {
         Check.due("no such hour", x.turned(3, 1, 3), -1);
         Check.due("no such hour", x.turned(3, 1, -1), -1);
         Check.due("no such hour", x.turned(3, 1, Integer.MAX_VALUE), -1);
+    }
+
+    private static void longest() {
+        MovingStair x = Check.told("stair odds 0;band 1;band 2;band 4;band 8;");
+        x.row(0, 0, 60);
+        for (int i = 0; i < 30; i++) {
+            x.write(0, 2 * i, i % 16);
+            x.write(0, 2 * i + 1, 15 - i % 16);
+        }
+        Check.due("all carried", x.turn(0, 0), 0);
+        int turnings = 0;
+        for (int i = 0; i < 30; i++) {
+            Check.due("each its own set", x.turned(0, 0, i), i % 16);
+            turnings += i == 0 ? 0 : Integer.bitCount(i % 16 ^ (i - 1) % 16);
+        }
+        Check.due("thirty hours", x.turnings(0, 0), turnings);
+        Check.due("no such hour", x.turned(0, 0, 30), -1);
     }
 
     private static void noBands() {
@@ -111,6 +129,8 @@ public final class BandTest {
         Check.due("quick", x.ant(99, 99, 99), 1);
         Check.due("never", x.ant(999, 1, 99), -1);
         Check.due("999 of 1001, cut", x.ant(999, 1, 0), 1000);
+        Check.due("in the last minute", x.ant(111, 8, 51), 1000);
+        Check.due("a minute too late", x.ant(102, 5, 29), -1);
         int[][] none = {{0, 5, 1}, {1000, 5, 1}, {1, 0, 1}, {1, 100, 1}, {1, 5, -1}, {1, 5, 100}};
         for (int[] n : none) {
             Check.due("ant", x.ant(n[0], n[1], n[2]), -2);

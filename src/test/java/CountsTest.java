@@ -3,7 +3,9 @@ public final class CountsTest {
     public static void main(String[] args) {
         twoCounts();
         threeCounts();
+        oneStep();
         miscounted();
+        onOneObject();
         unknownWays();
         questions();
         exactOnes();
@@ -41,6 +43,46 @@ public final class CountsTest {
         Check.due("slow against it", x.fits(1), 1);
         Check.due("slow against it, steps", x.fit(1, 0), 100);
         Check.due("slow against it, speed", x.fit(1, 1), 0);
+    }
+
+    private static void oneStep() {
+        MovingStair x = new MovingStair();
+        // 1 S by 1 and V, cut, is 0 if S is no more than V
+        Check.fill(x, 0, 0, 1, 1, 0);
+        Check.due("fits", x.fits(0), 465);
+        Check.due("fit steps", x.fit(0, 0), 1);
+        Check.due("fit speed", x.fit(0, 1), 1);
+        Check.due("unlike steps", x.unlike(0, 0), 30);
+        Check.due("unlike speeds", x.unlike(0, 1), 30);
+        Check.fill(x, 0, 0, 30, -1, 1);
+        Check.due("one step alone", x.fit(0, 0), 1);
+        Check.due("one step alone, none wrong", x.wrong(0), 0);
+        // pace 30 with it counts none of 1 step if it goes at all, pace 1 against it counts 1 if it stands
+        Check.fill(x, 0, 0, 30, 1, 0, 30, -1, 1);
+        Check.due("one step, both ways", x.fits(0), 15 - 1);
+        Check.due("one step, wrong", x.wrong(0), 0);
+        Check.due("one step, ways", x.ways(0), 1);
+        Check.fill(x, 0, 0, 30, 1, 1, 30, -1, 1, 29, 1, 1);
+        Check.due("one step, standing", x.fits(0), 1);
+        Check.due("one step, any way", x.ways(0), 8);
+    }
+
+    /** What an earlier call has found must not be left over for a later one. */
+    private static void onOneObject() {
+        MovingStair x = new MovingStair();
+        Check.fill(x, 0, 1, 20, 1, 40, 10, 1, 30);
+        Check.fill(x, 1, 1, 20, 1, 40, 10, 1, 99);
+        for (int i = 0; i < 2; i++) {
+            Check.due("left first", x.left(0), 2);
+            Check.due("ask", x.ask(0), 3);
+            Check.due("left of none", x.left(1), 0);
+            Check.due("ask of none", x.ask(1), -1);
+            Check.due("fit speed", x.fit(0, 1), 9);
+            Check.due("fit speed of none", x.fit(1, 1), -1);
+            Check.due("unlike", x.unlike(0, 0), 4);
+            Check.due("unlike of none", x.unlike(1, 0), 0);
+            Check.due("ways", x.ways(0), x.ways(0));
+        }
     }
 
     private static void miscounted() {

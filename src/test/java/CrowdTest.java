@@ -119,6 +119,19 @@ public final class CrowdTest {
         x.row(2, 1, 0);
         Check.due("no minutes", x.sides(2, 0, 3), 0);
         Check.due("no minutes, begins", x.begins(2, 0, 3), 0);
+        longest(x);
+    }
+
+    private static void longest(MovingStair x) {
+        x.row(3, 3, 60);
+        for (int i = 0; i < 30; i++) {
+            x.write(3, 2 * i, i == 29 ? 999 : 12);
+            x.write(3, 2 * i + 1, i == 29 ? 0 : 60);
+        }
+        // walking 12 for 29 minutes, then standing 10 in the last one
+        Check.due("thirty minutes", x.sides(3, 0, 1), 989);
+        Check.due("thirty minutes, begins", x.begins(3, 0, 1), 1);
+        Check.due("thirty minutes, no change", x.sides(3, 0, 0), 994);
     }
 
     private static void refused() {
@@ -152,8 +165,15 @@ public final class CrowdTest {
         all(x, 1, 0, -2);
         Check.fill(x, 1, 1, 12, -1);
         all(x, 1, 0, -2);
-        Check.fill(x, 1, 1, 12, 101);
-        Check.due("would above", x.sides(1, 0, 0), -2);
+        long[][] rows = {{12, 101}, {12, -1}, {1000, 12}, {-1, 12}, {0, 0, 1000, 0}, {0, 0, 0, 101}, {0, 100, 999, 100, 0, 101},
+            {0, 100, 999, 100, 1000, 100}};
+        for (long[] row : rows) {
+            Check.fill(x, 1, 1, row);
+            Check.due("sides", x.sides(1, 0, 0), -2);
+            Check.due("begins", x.begins(1, 0, 0), -2);
+        }
+        Check.fill(x, 1, 1, 999, 0, 0, 100);
+        Check.due("the edges", x.sides(1, 0, 0), 989 + 979);
         Check.fill(x, 1, 1, 12, 100, 3);
         Check.due("not two each", x.sides(1, 0, 0), -2);
         Check.due("not two each, begins", x.begins(1, 0, 0), -2);

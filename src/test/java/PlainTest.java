@@ -5,6 +5,8 @@ import java.util.Set;
 /** Compares the class with Plain on many ways and rows drawn from a fixed seed. */
 public final class PlainTest {
     private static final Random DRAW = new Random(20261118);
+    /** One object for all, so that what is left over from an earlier call is found. */
+    private static final MovingStair OFTEN = new MovingStair();
 
     private final int[] steps;
     private final int[] speeds;
@@ -40,7 +42,8 @@ public final class PlainTest {
             told.append("band ").append(bands[i]).append(";");
         }
         text = told.toString();
-        x = Check.told(text);
+        x = OFTEN;
+        Check.tell(x, text);
     }
 
     private static int between(int least, int most) {
@@ -375,7 +378,7 @@ public final class PlainTest {
     // ---- counts, by going through all pairs ----
 
     private static void counts() {
-        MovingStair x = new MovingStair();
+        MovingStair x = OFTEN;
         int size = between(0, 6);
         int realSteps = between(1, 200);
         int realSpeed = between(0, 30);

@@ -9,6 +9,7 @@ public final class TapeTest {
         feeding();
         ending();
         stairs();
+        oneAfterAnother();
         tokens();
         faults();
         outOfBounds();
@@ -74,9 +75,32 @@ public final class TapeTest {
         Check.due("pace", x.walker(0), 9);
         Check.due("none", x.stair(), 0);
         Check.due("no lines", x.count(7), 0);
+        Check.due("no odds", x.count(3), 0);
         Check.due("no walker", x.walker(0), -2);
         Check.due("blanks alone", Check.tell(x, " \n \n"), 0);
         Check.due("no stair", x.never(), -2);
+    }
+
+    /** What an earlier text told must not be left over for a later one, nor what a faulty one told. */
+    private static void oneAfterAnother() {
+        MovingStair x = new MovingStair();
+        String all = "stair odds 5;part steps 1 moves 1;walker pace 1;band 1;band 2;sides stand 1 walk 1 pace 1 would 1;";
+        for (int i = 0; i < 6; i++) {
+            Check.due("all", Check.tell(x, all), 6);
+            Check.due("parts", x.count(0), 1);
+            Check.due("walkers", x.count(1), 1);
+            Check.due("bands", x.count(2), 2);
+            Check.due("faulty", Check.tell(x, all + "?"), -4);
+        }
+        x.reverse();
+        Check.due("the head alone", Check.tell(x, HEAD), 1);
+        for (int what = 0; what <= 6; what++) {
+            Check.due("none of " + what, x.count(what), 0);
+        }
+        x.stair();
+        Check.tell(x, all);
+        x.stair();
+        Check.due("no odds without a stair", x.count(3), 0);
     }
 
     private static void tokens() {
@@ -133,6 +157,13 @@ public final class TapeTest {
         fault(HEAD + "sides stand 1 walk 1 pace 1;", 1, 40);
         fault(HEAD + "band;", 1, 17);
         fault(HEAD + "partsteps 5 moves 3;", 1, 13);
+        fault(HEAD + "partz steps 5 moves 3;", 1, 13);
+        fault(HEAD + "azpart", 1, 13);
+        fault(HEAD + "bart steps 5 moves 3;", 1, 13);
+        fault(HEAD + "park steps 5 moves 3;", 1, 13);
+        fault(HEAD + "par steps 5 moves 3;", 1, 13);
+        fault("xtair odds 5;", 1, 0);
+        fault("stair addt 5;", 1, 6);
     }
 
     private static void outOfBounds() {

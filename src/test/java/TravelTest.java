@@ -55,6 +55,9 @@ public final class TravelTest {
         Check.due("never", x.never(), 6);
         Check.due("none ever", Check.told("stair odds 0;part steps 1 moves 1 back;walker pace 1;").first(), -1);
         Check.due("no walkers", Check.told("stair odds 0;").first(), -1);
+        Check.due("no stair", new MovingStair().first(), -2);
+        Check.due("no stair, never", new MovingStair().never(), -2);
+        Check.due("no stair, round", new MovingStair().round(), -2);
         Check.due("no walkers never", Check.told("stair odds 0;").never(), 0);
         Check.due("a later one", Check.told("stair odds 0;part steps 9 moves 1;walker pace 1;walker pace 2;walker pace 2;").first(), 1);
     }
