@@ -832,16 +832,26 @@ public final class MovingStair {
         long above = 0;
         long below = 1;
 
-        /** A divisor of 0 never comes here; it would be told as 0 / 1. */
+        /** In lowest terms, what is below above 0; nothing is divided by 0, 0 / 1 stands for it. */
         void put(long a, long b) {
-            if (b == 0) {
+            long divisor = b;
+            long rest = a;
+            for (int i = 0; i < 200 && rest != 0; i++) {
+                long next = divisor % rest;
+                divisor = rest;
+                rest = next;
+            }
+            if (b == 0 || divisor == 0) {
                 above = 0;
                 below = 1;
                 return;
             }
-            long shared = b < 0 ? -commonDivisor(a, b) : commonDivisor(a, b);
-            above = a / shared;
-            below = b / shared;
+            above = a / divisor;
+            below = b / divisor;
+            if (below < 0) {
+                above = -above;
+                below = -below;
+            }
         }
 
         void take(Fraction other) {
@@ -850,11 +860,7 @@ public final class MovingStair {
         }
 
         void add(long a, long b) {
-            if (b == 0) {
-                return;
-            }
-            long shared = commonDivisor(below, b);
-            put(above * (b / shared) + a * (below / shared), below / shared * b);
+            put(above * b + a * below, below * b);
         }
 
         /** By whole parts and turned rests: the products that cross would not fit in a long. */
@@ -894,17 +900,6 @@ public final class MovingStair {
 
         long side(int what) {
             return what == 0 ? above : below;
-        }
-
-        private static long commonDivisor(long a, long b) {
-            long x = Math.abs(a);
-            long y = Math.abs(b);
-            for (int i = 0; i < 200 && y != 0; i++) {
-                long rest = x % y;
-                x = y;
-                y = rest;
-            }
-            return x == 0 ? 1 : x;
         }
     }
 
@@ -1241,34 +1236,34 @@ public final class MovingStair {
         /** Puts the TIME of the whole way into sum, the PARTS in still not moving. */
         boolean crosses(Layout layout, int pace, int still) {
             sum.put(0, 1);
-            for (int i = 0; i < layout.parts; i++) {
-                int speed = (still >> i & 1) == 1 ? 0 : layout.speeds[i];
-                if (!addTime(layout.steps[i], pace + speed)) {
+            return addTimes(layout, pace, still, 0, layout.parts);
+        }
+
+        /** Adds the TIME from one PART's start to another's; false, if he never comes there. */
+        private boolean addTimes(Layout layout, int pace, int still, int from, int to) {
+            for (int i = from; i < to && i < layout.parts; i++) {
+                int rate = pace + ((still >> i & 1) == 1 ? 0 : layout.speeds[i]);
+                if (rate <= 0) {
                     return false;
                 }
+                sum.add(layout.steps[i], rate);
             }
             return true;
         }
 
         boolean addReturn(Layout layout, int pace) {
             for (int i = layout.parts - 1; i >= 0; i--) {
-                if (!addTime(layout.steps[i], pace - layout.speeds[i])) {
+                int rate = pace - layout.speeds[i];
+                if (rate <= 0) {
                     return false;
                 }
+                sum.add(layout.steps[i], rate);
             }
             return true;
         }
 
         boolean isWithin(Layout layout, int pace, int still, int minutes) {
             return crosses(layout, pace, still) && !sum.isAbove(minutes);
-        }
-
-        private boolean addTime(int steps, int rate) {
-            if (rate <= 0) {
-                return false;
-            }
-            sum.add(steps, rate);
-            return true;
         }
 
         int partAfter(Layout layout, int pace, int seconds) {
@@ -1319,12 +1314,11 @@ public final class MovingStair {
             return found;
         }
 
+        /** Puts into sum the TIME if he changes at a PART's start; false, if he never is there. */
         private boolean changes(Layout layout, int pace, int changed, int minutes, boolean stops, int start) {
             sum.put(0, 1);
-            for (int i = 0; i < start; i++) {
-                if (!addTime(layout.steps[i], pace + layout.speeds[i])) {
-                    return false;
-                }
+            if (!addTimes(layout, pace, 0, 0, start)) {
+                return false;
             }
             minutesLeft.put(minutes, 1);
             int part = carry(layout, changed, start);
@@ -1335,11 +1329,6 @@ public final class MovingStair {
                 }
                 return true;
             }
-            return addRest(layout, pace, changed, part);
-        }
-
-        /** Adds the TIME from where the change has left him, inside a PART or at its start. */
-        private boolean addRest(Layout layout, int pace, int changed, int part) {
             int rate = pace + layout.speeds[part];
             if (rate <= 0) {
                 return false;
@@ -1347,12 +1336,7 @@ public final class MovingStair {
             long come = Math.max(0, changed + layout.speeds[part]) * minutesLeft.above;
             long whole = layout.steps[part] * minutesLeft.below;
             sum.add(whole - come, minutesLeft.below * rate);
-            for (int i = part + 1; i < layout.parts; i++) {
-                if (!addTime(layout.steps[i], pace + layout.speeds[i])) {
-                    return false;
-                }
-            }
-            return true;
+            return addTimes(layout, pace, 0, part + 1, layout.parts);
         }
     }
 
