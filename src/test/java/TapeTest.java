@@ -41,6 +41,8 @@ public final class TapeTest {
         Check.due("bytes", x.count(8), 900);
         Check.due("end(899)", x.end(899), 899);
         Check.due("feed beyond by one", x.feed(0, 0, 0, 0, 0), -1);
+        Check.due("end(881)", x.end(881), 881);
+        Check.due("feed beyond by one byte", x.feed(0, 0, 0, 0, 0), -1);
         Check.due("end(880)", x.end(880), 880);
         Check.due("feed to the brim", x.feed(0, 0, 0, 0, 0), 900);
         MovingStair y = new MovingStair();
