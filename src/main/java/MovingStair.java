@@ -569,19 +569,21 @@ public final class MovingStair {
     }
 
     public long stream(int d, int p, int u, int what) {
-        if (isNoStream(d, p, u) || !isSide(what)) {
-            return NO_SUCH;
-        }
-        if (p <= u) {
-            return NONE;
-        }
-        told.put(d, p + u);
-        told.add(d, p - u);
-        return told.side(what);
+        int state = isSide(what) ? openStream(d, p, u) : NO_SUCH;
+        return state == 0 ? told.side(what) : state;
     }
 
     public long still(int d, int p, int u, int what) {
-        if (isNoStream(d, p, u) || !isSide(what)) {
+        int state = isSide(what) ? openStream(d, p, u) : NO_SUCH;
+        if (state != 0) {
+            return state;
+        }
+        told.put(2L * d * told.below, told.above);
+        return told.side(what);
+    }
+
+    private int openStream(int d, int p, int u) {
+        if (isNoStream(d, p, u)) {
             return NO_SUCH;
         }
         if (p <= u) {
@@ -589,8 +591,7 @@ public final class MovingStair {
         }
         told.put(d, p + u);
         told.add(d, p - u);
-        told.put(2L * d * told.below, told.above);
-        return told.side(what);
+        return 0;
     }
 
     public int ant(int d, int p, int u) {
