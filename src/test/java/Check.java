@@ -4,15 +4,25 @@ import java.nio.charset.StandardCharsets;
 final class Check {
     private static int wrong = 0;
     private static int asked = 0;
+    private static String remark = "";
 
     private Check() {
+    }
+
+    /** What is put ahead of each call that is told to be wrong. */
+    static void remark(String text) {
+        remark = text;
+    }
+
+    static int asked() {
+        return asked;
     }
 
     static void due(String call, long got, long want) {
         asked++;
         if (got != want) {
             wrong++;
-            System.out.println(call + " answered " + got + ", due is " + want);
+            System.out.println(remark + call + " answered " + got + ", due is " + want);
         }
     }
 
