@@ -282,7 +282,7 @@ public final class MovingStair {
         }
         told.take(travel.sum);
         told.add(-n, 1);
-        return (int) Math.max(0, -Math.floorDiv(-60 * told.above, told.below));
+        return (int) Math.max(0, -told.wholeOf(-60));
     }
 
     public int rests(int walker, int n) {
@@ -896,7 +896,12 @@ public final class MovingStair {
         }
 
         long whole() {
-            return below == 0 ? 0 : Math.floorDiv(above, below);
+            return wholeOf(1);
+        }
+
+        /** So many times the fraction, cut down. */
+        long wholeOf(long times) {
+            return below == 0 ? 0 : Math.floorDiv(times * above, below);
         }
 
         long side(int what) {
@@ -1279,7 +1284,7 @@ public final class MovingStair {
                 return ahead;
             }
             int rate = Math.max(0, pace + layout.speeds[part]);
-            return ahead + (int) Math.floorDiv(rate * minutesLeft.above, minutesLeft.below);
+            return ahead + (int) minutesLeft.wholeOf(rate);
         }
 
         /**

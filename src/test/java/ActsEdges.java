@@ -83,6 +83,7 @@ final class ActsEdges {
         Check.due("one again", x.reverse(), 1);
         speeds(x, 10, 0, -5);
         Check.due("four", Check.told("stair odds 0;" + "part steps 1 moves 30;".repeat(4)).reverse(), 4);
+        Check.due("the slowest two", Check.told("stair odds 0;" + "part steps 1 moves 1;".repeat(2)).reverse(), 2);
         MovingStair none = Check.told("stair odds 0;");
         Check.due("no PARTS", none.reverse(), 0);
         Check.due("an act", none.count(6), 1);
@@ -217,6 +218,10 @@ final class ActsEdges {
         Check.due("from 1, two", x.luck(1, 2, 0, 2), 1);
         Check.due("a minute too late", x.luck(0, 3, 0, 1), 0);
         Check.due("by his own pace", x.luck(0, 3, 0, 3), 3);
+        // 7 / 2 minutes
+        MovingStair half = Check.told("stair odds 0;part steps 7 moves 1;walker pace 1;");
+        Check.due("half a minute to spare", half.luck(0, 5, 0, 4), 5);
+        Check.due("half a minute too late", half.luck(0, 5, 0, 3), 0);
         Check.due("carried alone", x.luck(0, 3, 1, 600), 1);
         Check.due("no time", x.luck(0, 20, 0, 0), 0);
         Check.due("twenty", x.luck(0, 20, 0, 600), 20);
@@ -324,6 +329,17 @@ final class ActsEdges {
         speeds(x, 10, 0, -5);
         Check.due("the IMAGE stays", x.back(1), 0);
         speeds(x, 2, 0, -5);
+        // other acts in place of those that it keeps
+        x.anew();
+        x.reverse();
+        x.set(2, 30);
+        x.set(1, 29);
+        Check.due("back once more", x.back(1), 0);
+        Check.due("its own acts", x.undo(), 1);
+        speeds(x, 1, 0, -5);
+        Check.due("its own acts", x.undo(), 0);
+        speeds(x, 10, 0, -5);
+        x.back(1);
         MovingStair none = new MovingStair();
         none.image(2);
         Check.tell(none, "stair odds 1;");

@@ -66,6 +66,11 @@ final class BandEdges {
         dueTurn(bands("band 9999;", 9999, 0, 0, 9999), 9999, 9999, 0, 0, 0);
         dueTurn(bands("band 100;band 50;", 150, 0, 0, 150), 60, 50 + 60, 1, 1, 0);
         dueTurn(bands("band 5;"), 0, 0, 0);
+        // no hours behind some: nothing is left of those
+        MovingStair again = bands("band 5;", 9, 0, 0, 9);
+        dueTurn(again, 1, 9, 1, 1, 0);
+        again.row(0, 3, 0);
+        dueTurn(again, 1, 0, 0);
         MovingStair x = Check.told(HEAD + "band 1;band 2;band 4;band 8;");
         x.row(0, 0, 60);
         for (int h = 0; h < 30; h++) {

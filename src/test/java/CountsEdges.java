@@ -92,12 +92,76 @@ final class CountsEdges {
         for (long[] edge : edges) {
             Check.due("a number at its bound", Math.min(0, of(edge).fits(0)), 0);
         }
+        ends();
+        again();
         for (int slot = 0; slot < 4; slot++) {
             MovingStair x = new MovingStair();
             Check.fill(x, slot, slot, THREE);
             // 120 and 40 are bytes too
             Check.due("SLOT and WIDTH " + slot, x.fits(slot), 1);
         }
+    }
+
+    /** Rows that only pairs at the ends of STEPS or of SPEED fit: {row, STEPS, SPEED, unlike STEPS}. */
+    private static void ends() {
+        long[][] rows = {{1, -1, 1}, {1, -1, 200}, {7, 1, 37, 28, 1, 96}};
+        int[][] due = {{1, 0, 1}, {200, 0, 1}, {199, 30, 2}};
+        for (int i = 0; i < rows.length; i++) {
+            MovingStair x = of(rows[i]);
+            Check.due("pairs", x.fits(0), due[i][2]);
+            Check.due("STEPS", x.fit(0, 0), due[i][0]);
+            Check.due("SPEED", x.fit(0, 1), due[i][1]);
+            Check.due("unlike STEPS", x.unlike(0, 0), due[i][2]);
+            Check.due("unlike SPEEDS", x.unlike(0, 1), 1);
+            Check.due("wrong", x.wrong(0), 0);
+            Check.due("ways", x.ways(0), waysByFits(rows[i]));
+        }
+    }
+
+    /** In how many ways some pair fits, by asking fits() of every one. */
+    private static int waysByFits(long[] row) {
+        int found = 0;
+        for (int way = 0; way < 1 << row.length / 3; way++) {
+            long[] other = row.clone();
+            for (int i = 0; i < row.length / 3; i++) {
+                other[3 * i + 1] = (way >> i & 1) == 1 ? 1 : -1;
+            }
+            found += of(other).fits(0) > 0 ? 1 : 0;
+        }
+        return found;
+    }
+
+    /** What was asked of one row tells nothing of the next one. */
+    private static void again() {
+        long[][] rows = {{}, TWO, ONE_WRONG, {1, 1, 0}, {7, -1, 9999}, {5, 1, 50, 5, 1, 50}, THREE, {1, -1, 7}, {30, 1, 6000}};
+        MovingStair x = new MovingStair();
+        for (long[] first : rows) {
+            for (long[] next : rows) {
+                x.row(0, 3, 0);
+                Check.due("the first's", sumOf(filled(x, first)), sumOf(filled(new MovingStair(), first)));
+                Check.due("the next one's", sumOf(filled(x, next)), sumOf(filled(new MovingStair(), next)));
+            }
+            x = new MovingStair();
+        }
+    }
+
+    private static MovingStair filled(MovingStair x, long[] row) {
+        x.row(0, 3, row.length);
+        for (int i = 0; i < row.length; i++) {
+            x.write(0, i, row[i]);
+        }
+        return x;
+    }
+
+    /** All that a row tells, in one number. */
+    private static long sumOf(MovingStair x) {
+        long sum = 0;
+        long[] told = {x.ways(0), x.fits(0), x.unlike(0, 0), x.unlike(0, 1), x.ask(0), x.left(0), x.fit(0, 0), x.fit(0, 1),
+            x.wrong(0), x.wrongs(0), x.exact(0, 0), x.quick(0, 0)};
+        for (long one : told) {
+            sum = 31 * sum + one;
+        }
+        return sum;
     }
 
     private static void allOf(MovingStair x, int slot, int want) {
@@ -281,7 +345,8 @@ final class CountsEdges {
     private static void ask() {
         Words.hold(32, "ASK: the pace (1 .. 30) of one more who goes with it, whose count leaves fewest pairs at worst,"
                 + " if fewer than now, the least of several.");
-        long[][] rows = {TWO, {30, 1, 150}, {7, -1, 9}, {1, 1, 100}, {}, {30, 1, 20, 29, 1, 20}, {3, 1, 0}};
+        // of {11, 1, 93} one of 31 would leave fewer than any up to 30
+        long[][] rows = {TWO, {30, 1, 150}, {7, -1, 9}, {1, 1, 100}, {}, {30, 1, 20, 29, 1, 20}, {3, 1, 0}, {11, 1, 93}};
         for (long[] row : rows) {
             MovingStair x = of(row);
             int least = x.fits(0);

@@ -109,6 +109,9 @@ final class CrowdEdges {
         Words.hold(37, "FLOW, one side walking, by how many would walk, above, below.");
         MovingStair x = sided(40);
         Check.dueFraction("walk", x.walk(0, 0), x.walk(0, 1), 25, 3);
+        x.set(0, 1);
+        Check.dueFraction("just forward", x.walk(0, 0), x.walk(0, 1), 5, 6);
+        x.undo();
         Words.hold(37, "NONE, -2 likewise.");
         for (int part = 1; part <= 2; part++) {
             Check.dueFraction("part " + part, x.walk(part, 0), x.walk(part, 1), -1, -1);
@@ -135,6 +138,8 @@ final class CrowdEdges {
         Check.due("nobody", sided(0).more(0), -1);
         Words.hold(38, "-2 likewise, it does not go forward.");
         MovingStair x = sided(50);
+        x.set(0, 1);
+        Check.due("just forward", x.more(0), 0);
         Check.due("still", x.more(1), -2);
         Check.due("back", x.more(2), -2);
         for (int part : OUT) {
@@ -161,6 +166,8 @@ final class CrowdEdges {
         Check.due("just", x.enough(0), 50);
         Words.hold(39, "-2 likewise.");
         x = sided(50);
+        x.set(0, 1);
+        Check.due("just forward", x.enough(0), 50);
         Check.due("still", x.enough(1), -2);
         Check.due("back", x.enough(2), -2);
         for (int part : OUT) {
@@ -247,6 +254,7 @@ final class CrowdEdges {
         long[] wrong = {-1, 1000, Long.MAX_VALUE, Long.MIN_VALUE, 1L << 32};
         for (long number : wrong) {
             allCrowds(fill(x, number, 1, 2), 0, 0, -2);
+            allCrowds(fill(x, 1, number, 2), 0, 0, -2);
             allCrowds(fill(x, 1, 2, number), 0, 0, -2);
         }
         Words.hold(40, "the PART does not go forward");
@@ -294,6 +302,7 @@ final class CrowdEdges {
         dueSides(fill(x, 14, 0), 0, 4, 0);
         dueSides(fill(x, 14, 100), 0, 4, 0);
         dueSides(fill(x, 999, 0), 0, 989, 0);
+        dueSides(fill(x, 0, 100, 999, 100), 0, 989, 0);
         Words.hold(42, "the least they wait together in these minutes (as told behind each)");
         dueSides(fill(x, 30, 0), 0, 20, 0);
         dueSides(fill(x, 30, 0, 0, 0), 0, 30, 0);

@@ -140,7 +140,8 @@ final class TapeEdges {
 
         Words.hold(4, "(0: there is none then)");
         for (String text : new String[] {"", " ", "\n", " \n \n  "}) {
-            Check.tell(x, HEAD + PART + WALKER);
+            Check.tell(x, "stair odds 9;" + PART + WALKER + BAND + SIDES);
+            x.reverse();
             Check.due("no LINE", Check.tell(x, text), 0);
             Check.due("empty", x.count(8), 0);
             Check.due("first()", x.first(), -2);
@@ -182,6 +183,10 @@ final class TapeEdges {
         MovingStair none = new MovingStair();
         Check.due("stair()", Check.tell(none, "stair odds 7"), -4);
         Check.due("none stays none", none.first(), -2);
+        // the STAIR and all else stays; the TAPE has been read, and is empty then, as NOTES.md tells
+        Check.due("the TAPE", none.count(8), 0);
+        Check.feedText(none, HEAD);
+        Check.due("a text of its own", none.stair(), 1);
     }
 
     private static void fault() {
@@ -284,9 +289,11 @@ final class TapeEdges {
         String[] forms = {"part steps 5 moves 3 ;", "part steps 5 moves 3 back ;", "walker pace 7 ;",
             "sides stand 1 walk 1 pace 1 would 1 ;", "band 3 ;"};
         missingTokens("", "stair odds 5 ;");
+        otherWords("", "stair odds 5 ;");
         for (String form : forms) {
             Check.due(form, Check.tell(new MovingStair(), HEAD + form), 2);
             missingTokens(HEAD, form);
+            otherWords(HEAD, form);
         }
         fault(HEAD + "part steps 5 moves 3 back back;", 1, 39);
         fault(HEAD + "walker pace 7 back;", 1, 27);
@@ -323,6 +330,20 @@ final class TapeEdges {
             fault(longer.toString(), 1, second);
             if (!tokens[gone].equals("back")) {
                 fault(shorter.toString(), 1, place);
+            }
+        }
+    }
+
+    /** Each letter of each word put by another one is a FAULT at that word. */
+    private static void otherWords(String ahead, String form) {
+        int place = 0;
+        for (int i = 0; i < form.length(); i++) {
+            if (i > 0 && form.charAt(i - 1) == ' ') {
+                place = i;
+            }
+            if (Character.isLetter(form.charAt(i))) {
+                String other = form.substring(0, i) + 'x' + form.substring(i + 1);
+                fault(ahead + other, 1, ahead.length() + place);
             }
         }
     }

@@ -115,6 +115,8 @@ final class TravelEdges {
         Check.dueFraction("the last", x.spends(0, 2, 0), x.spends(0, 2, 1), 4, 3);
         MovingStair far = Check.told(HEAD + "part steps 1 moves 0;part steps 20 moves 15;walker pace 0;");
         Check.dueFraction("one that he never comes to", far.spends(0, 1, 0), far.spends(0, 1, 1), 4, 3);
+        MovingStair slow = Check.told(HEAD + "part steps 7 moves 29 back;walker pace 30;");
+        Check.dueFraction("just above 0 together", slow.spends(0, 0, 0), slow.spends(0, 0, 1), 7, 1);
         Words.hold(9, "NONE: he never comes to its end");
         Check.dueFraction("together 0", x.spends(1, 2, 0), x.spends(1, 2, 1), -1, -1);
         Check.dueFraction("together below 0", x.spends(2, 2, 0), x.spends(2, 2, 1), -1, -1);
@@ -188,6 +190,11 @@ final class TravelEdges {
         }
         Check.due("stays on the next one", x.on(1, 600), 2);
         Check.due("not yet", x.on(1, 599), 1);
+        MovingStair slow = Check.told(HEAD + "part steps 200 moves 29 back;".repeat(4) + "walker pace 30;");
+        for (int part = 1; part <= 3; part++) {
+            Check.due("a second ahead of PART " + part, slow.on(0, 12000 * part - 1), part - 1);
+            Check.due("just at PART " + part, slow.on(0, 12000 * part), part);
+        }
         Words.hold(12, "NONE: he is there, there are no PARTS");
         Check.due("just there", x.on(0, 290), -1);
         Check.due("long there", x.on(0, 36000), -1);
@@ -240,6 +247,10 @@ final class TravelEdges {
         Check.due("at once", x.catches(1, 0, 0), 0);
         Check.due("himself", x.catches(1, 1, 0), 1);
         Check.due("himself later", x.catches(1, 1, 1), 0);
+        // 60 / 30 and 30 / 25 are 192 seconds, 60 / 15 and 30 / 10 are 420
+        MovingStair moving = Check.told(HEAD + "part steps 60 moves 10;part steps 30 moves 5;walker pace 20;walker pace 5;");
+        Check.due("carried, just", moving.catches(0, 1, 228), 1);
+        Check.due("carried, a second too late", moving.catches(0, 1, 229), 0);
         Words.hold(15, "(he never is, too; 1, if the other one alone never is)");
         Check.due("he never is", x.catches(2, 1, 0), 0);
         Check.due("both never are", x.catches(2, 2, 0), 0);
@@ -477,6 +488,11 @@ final class TravelEdges {
         Check.due("just 600", slow.train(1, 600), 1);
         Check.due("599", slow.train(0, 599), 1);
         Check.due("at once", Check.told(HEAD + "walker pace 0;").train(0, 0), 0);
+        // 7 / 2 minutes, by 1 faster 7 / 3
+        MovingStair half = Check.told(HEAD + "part steps 7 moves 0;walker pace 2;");
+        Check.due("half a minute to spare", half.train(0, 4), 0);
+        Check.due("half a minute too late", half.train(0, 3), 1);
+        Check.due("a third too late by 1", half.train(0, 2), 2);
         Words.hold(21, "NONE: by none");
         Check.due("no time", x.train(3, 0), -1);
         Check.due("31 would be needed", Check.told(HEAD + "part steps 31 moves 0;walker pace 0;").train(0, 1), -1);
@@ -530,6 +546,11 @@ final class TravelEdges {
         MovingStair still = Check.told(HEAD + "part steps 10 moves 0;walker pace 10;");
         Check.due("of 0", still.rests(0, 1), 0);
         Check.due("of 1", still.rests(0, 2), 1);
+        // 7 / 2 minutes
+        MovingStair half = Check.told(HEAD + "part steps 7 moves 0;walker pace 2;");
+        Check.due("half a minute to spare", half.rests(0, 4), 0);
+        Check.due("half a minute more to spare", half.rests(0, 5), 1);
+        Check.due("half a minute too late", half.rests(0, 3), -1);
         Words.hold(23, "NONE: not even of 0");
         Check.due("too late", x.rests(0, 1), -1);
         Check.due("no time", still.rests(0, 0), -1);
