@@ -116,6 +116,11 @@ final class CountsEdges {
             Check.due("wrong", x.wrong(0), 0);
             Check.due("ways", x.ways(0), waysByFits(rows[i]));
         }
+        // 2 S by 2 less 1: a SPEED of -1 is none, but one of 1 and the other way would do
+        MovingStair back = of(2, 1, 300);
+        Check.due("a SPEED below 0", back.fits(0), 0);
+        Check.due("a SPEED below 0, wrong", back.wrong(0), 1);
+        Check.due("a SPEED below 0, ways", back.ways(0), 1);
     }
 
     /** In how many ways some pair fits, by asking fits() of every one. */
@@ -133,7 +138,7 @@ final class CountsEdges {
 
     /** What was asked of one row tells nothing of the next one. */
     private static void again() {
-        long[][] rows = {{}, TWO, ONE_WRONG, {1, 1, 0}, {7, -1, 9999}, {5, 1, 50, 5, 1, 50}, THREE, {1, -1, 7}, {30, 1, 6000}};
+        long[][] rows = {{}, TWO, ONE_WRONG, {1, 1, 0}, {7, -1, 9999}, {5, 1, 50, 5, 1, 50}, {5, 1, 50}, THREE, {1, -1, 7}};
         MovingStair x = new MovingStair();
         for (long[] first : rows) {
             for (long[] next : rows) {
@@ -453,6 +458,8 @@ final class CountsEdges {
         Words.hold(35, "SPEED likewise (of whatever sign).");
         dueExact(new long[] {20, 1, 40, 10, 1, 40}, 40, 1, 0, 1);
         dueExact(new long[] {1, 1, 3, 2, 1, 2}, 3, 2, -1, 2);
+        // 3 S = 3 (3 + V), 2 S = 4 (2 + V)
+        dueExact(new long[] {3, 1, 3, 2, 1, 4}, 2, 1, -1, 1);
         dueExact(new long[] {30, 1, 9999, 29, 1, 9998}, 33323334, 3323, 290, 3323);
         Words.hold(35, "NONE, -2, -6 likewise.");
         MovingStair none = of(20, 1, 40, 10, 1, 20);
