@@ -52,6 +52,9 @@ final class CrowdEdges {
         // both full at once: 3 stand and 3 walk of 6
         x = Check.told(HEAD + "part steps 1 moves 9;sides stand 3 walk 5 pace 6 would 50;");
         Check.dueFraction("both full", x.walk(0, 0), x.walk(0, 1), 6, 1);
+        // 1 / 9 stand and 31 walk a minute: even one in a hundred holds the others back
+        x = Check.told(HEAD + "part steps 1 moves 1;sides stand 9 walk 1 pace 30 would 99;");
+        Check.dueFraction("few stand, and slowly", x.walk(0, 0), x.walk(0, 1), 100, 9);
         Words.hold("V", "(would 0: the standing one alone; 100: the other alone)");
         dueWalk(0, 5, 1);
         dueWalk(100, 10, 1);
