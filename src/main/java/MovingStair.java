@@ -31,16 +31,14 @@ public final class MovingStair {
     private static final int LATEST_TRAIN = 600;
     private static final int MILLION = 1000000;
 
-    private final byte[] tape = new byte[TAPE_BYTES];
     private int taped = 0;
     private int faultKind = 0;
     private int faultPlace = NONE;
     private final Layout now = new Layout();
-    private final Layout fresh = new Layout();
     private final Layout[] images = new Layout[IMAGES];
     private final boolean[] imaged = new boolean[IMAGES];
     private final Slot[] slots = new Slot[SLOTS];
-    private final Reader reader = new Reader(tape, fresh);
+    private final Reader reader = new Reader();
     private final Travel travel = new Travel();
     private final Counts counts = new Counts();
     private final Queue queue = new Queue();
@@ -73,7 +71,7 @@ public final class MovingStair {
 
     private void putBytes(int four) {
         for (int shift = 24; shift >= 0 && taped < TAPE_BYTES; shift -= 8) {
-            tape[taped] = (byte) (four >> shift);
+            reader.tape[taped] = (byte) (four >> shift);
             taped++;
         }
     }
@@ -95,7 +93,7 @@ public final class MovingStair {
         if (faultKind != 0) {
             return FAULTY;
         }
-        now.copyFrom(fresh);
+        now.copyFrom(reader.fresh);
         return now.lines;
     }
 
@@ -1044,21 +1042,16 @@ public final class MovingStair {
 
         int fault = 0;
         int place = NONE;
-        private final byte[] text;
-        private final Layout into;
+        final byte[] tape = new byte[TAPE_BYTES];
+        final Layout fresh = new Layout();
         private int length = 0;
         private int kind = END;
         private int from = 0;
         private int until = 0;
 
-        Reader(byte[] text, Layout into) {
-            this.text = text;
-            this.into = into;
-        }
-
         void read(int size) {
-            length = Math.min(size, text.length);
-            into.clear();
+            length = Math.min(size, tape.length);
+            fresh.clear();
             fault = 0;
             place = NONE;
             until = 0;
@@ -1069,7 +1062,7 @@ public final class MovingStair {
         }
 
         private void readLine() {
-            if (into.lines == 0) {
+            if (fresh.lines == 0) {
                 readHead();
             } else if (isWord("part")) {
                 readPart();
@@ -1086,59 +1079,59 @@ public final class MovingStair {
                 refuse(CANNOT_STAND);
             }
             if (fault == 0) {
-                into.lines++;
+                fresh.lines++;
                 advance();
             }
         }
 
         private void readHead() {
             expectWord("stair");
-            into.odds = namedNumber("odds", 0, 100);
+            fresh.odds = namedNumber("odds", 0, 100);
         }
 
         private void readPart() {
-            int part = into.parts;
+            int part = fresh.parts;
             if (part >= MOST_PARTS) {
                 refuse(TOO_MANY);
                 return;
             }
             expectWord("part");
-            into.steps[part] = namedNumber("steps", 1, 200);
-            into.speeds[part] = namedNumber("moves", 0, TOP_SPEED);
+            fresh.steps[part] = namedNumber("steps", 1, 200);
+            fresh.speeds[part] = namedNumber("moves", 0, TOP_SPEED);
             if (fault == 0 && isWord("back")) {
-                into.speeds[part] = -into.speeds[part];
+                fresh.speeds[part] = -fresh.speeds[part];
                 advance();
             }
-            into.parts++;
+            fresh.parts++;
         }
 
         private void readWalker() {
-            if (into.walkers >= MOST_WALKERS) {
+            if (fresh.walkers >= MOST_WALKERS) {
                 refuse(TOO_MANY);
                 return;
             }
             expectWord("walker");
-            into.paces[into.walkers] = namedNumber("pace", 0, TOP_SPEED);
-            into.walkers++;
+            fresh.paces[fresh.walkers] = namedNumber("pace", 0, TOP_SPEED);
+            fresh.walkers++;
         }
 
         private void readSides() {
             expectWord("sides");
-            into.sideStand = namedNumber("stand", 1, 9);
-            into.sideWalk = namedNumber("walk", 1, 9);
-            into.sidePace = namedNumber("pace", 1, TOP_SPEED);
-            into.sideWould = namedNumber("would", 0, 100);
-            into.sided = true;
+            fresh.sideStand = namedNumber("stand", 1, 9);
+            fresh.sideWalk = namedNumber("walk", 1, 9);
+            fresh.sidePace = namedNumber("pace", 1, TOP_SPEED);
+            fresh.sideWould = namedNumber("would", 0, 100);
+            fresh.sided = true;
         }
 
         private void readBand() {
-            if (into.bands >= MOST_BANDS) {
+            if (fresh.bands >= MOST_BANDS) {
                 refuse(TOO_MANY);
                 return;
             }
             expectWord("band");
-            into.carried[into.bands] = boundedNumber(1, 9999);
-            into.bands++;
+            fresh.carried[fresh.bands] = boundedNumber(1, 9999);
+            fresh.bands++;
         }
 
         private int namedNumber(String name, int least, int most) {
@@ -1186,7 +1179,7 @@ public final class MovingStair {
                 return false;
             }
             for (int i = 0; i < word.length() && from + i < length; i++) {
-                if (text[from + i] != word.charAt(i)) {
+                if (tape[from + i] != word.charAt(i)) {
                     return false;
                 }
             }
@@ -1197,14 +1190,14 @@ public final class MovingStair {
         private int numberHere() {
             int value = 0;
             for (int i = from; i < until && i < length; i++) {
-                value = Math.min(MILLION, value * 10 + text[i] - '0');
+                value = Math.min(MILLION, value * 10 + tape[i] - '0');
             }
             return value;
         }
 
         private void advance() {
             int i = until;
-            while (i < length && (text[i] == ' ' || text[i] == '\n')) {
+            while (i < length && (tape[i] == ' ' || tape[i] == '\n')) {
                 i++;
             }
             from = i;
@@ -1222,7 +1215,7 @@ public final class MovingStair {
             if (i < 0 || i >= length) {
                 return END;
             }
-            byte sign = text[i];
+            byte sign = tape[i];
             if (sign >= 'a' && sign <= 'z') {
                 return WORD;
             }
@@ -1406,7 +1399,7 @@ public final class MovingStair {
         private final int[] withIt = new int[MOST_STEPS + 1];
         private final int[] againstIt = new int[MOST_STEPS + 1];
         private final int[] tally = new int[MOST_STEPS + 1];
-        private final boolean[] possible = new boolean[1 << FEW];
+        private final int[] possible = new int[1 << FEW];
         private int least = 1;
         private int most = MOST_STEPS;
 
@@ -1528,7 +1521,7 @@ public final class MovingStair {
             if (size > FEW) {
                 return 0;
             }
-            Arrays.fill(possible, false);
+            Arrays.fill(possible, 0);
             int found = 0;
             int all = (1 << size) - 1;
             for (int speed = 0; speed <= TOP_SPEED; speed++) {
@@ -1555,8 +1548,8 @@ public final class MovingStair {
             int part = free;
             for (int i = 0; i < possible.length; i++) {
                 int way = fixed | part;
-                if (way < possible.length && !possible[way]) {
-                    possible[way] = true;
+                if (way < possible.length && possible[way] == 0) {
+                    possible[way] = 1;
                     found++;
                 }
                 if (part == 0) {
@@ -1614,6 +1607,7 @@ public final class MovingStair {
     /** Who waits at the foot of a PART, minute by minute. */
     private static final class Queue {
         private static final int MOST_MINUTES = MOST_NUMBERS / 2;
+        private static final long ABOVE_ANY_WAIT = 999L * MOST_MINUTES * MOST_MINUTES + 1;
 
         boolean endless = false;
         long waited = 0;
@@ -1655,7 +1649,7 @@ public final class MovingStair {
                 layout.putWalking(part, (int) row.numbers[2 * i + 1], flow);
                 walking[i] = flow.whole();
             }
-            leastFromStanding = leastWait(0, 0, changes, 0, 0, Long.MAX_VALUE);
+            leastFromStanding = leastWait(0, 0, changes, 0, 0, ABOVE_ANY_WAIT);
             leastOfAll = leastWait(0, 1, changes, 0, 0, leastFromStanding);
         }
 

@@ -18,6 +18,8 @@ public final class RulesTest {
     private static final String[] FORBIDDEN = {"\\bthrow\\b", "\\btry\\b", "\\bcatch\\b", "\\bsynchronized\\b", "\\bassert\\b",
         "->", "::", "Exact\\(", "\\bdouble\\b", "\\bfloat\\b", "\\bpackage\\b", "\\bprotected\\b", "\\bThread\\b", "\\bRandom\\b",
         "System\\.(?!arraycopy)", "\\bstatic \\{"};
+    private static final Set<String> LIBRARY = Set.of("Math.max", "Math.min", "Math.abs", "Math.floorDiv", "Math.floorMod",
+        "Integer.bitCount", "Integer.compare", "Long.compare", "Arrays.fill", "System.arraycopy");
 
     public static void main(String[] args) throws IOException {
         Path main = Path.of(System.getProperty("main", "src/main/java/MovingStair.java"));
@@ -25,7 +27,10 @@ public final class RulesTest {
         face(Path.of(System.getProperty("shared", "../shared")).resolve("DOC.md"));
         members();
         nested();
-        words(text.replaceAll("(?s)/\\*.*?\\*/|//[^\n]*", ""));
+        String code = text.replaceAll("(?s)/\\*.*?\\*/|//[^\n]*", "");
+        words(code);
+        library(code);
+        nothingHandedOut(code);
         lengths(text);
         Check.finish("RulesTest");
     }
@@ -100,6 +105,29 @@ public final class RulesTest {
         Matcher imports = Pattern.compile("import ([\\w.*]+);").matcher(code);
         while (imports.find()) {
             Check.due("import " + imports.group(1), imports.group(1).equals("java.util.Arrays") ? 1 : 0, 1);
+        }
+    }
+
+    /** Rule 4: what is called of the library stands in it, and only arrays of numbers are filled. */
+    private static void library(String code) {
+        Matcher calls = Pattern.compile("\\b((?:Math|Integer|Long|Arrays|System)\\.\\w+)").matcher(code);
+        while (calls.find()) {
+            Check.due(calls.group(1) + " is of the library's list", LIBRARY.contains(calls.group(1)) ? 1 : 0, 1);
+        }
+        Matcher filled = Pattern.compile("Arrays\\.fill\\((\\w+),").matcher(code);
+        while (filled.find()) {
+            boolean numbers = Pattern.compile("\\b(int|long|short|byte|char)\\[\\] " + filled.group(1) + "\\b").matcher(code).find();
+            Check.due(filled.group(1) + " has numbers", numbers ? 1 : 0, 1);
+        }
+    }
+
+    /** Rule 12: an object that is being made gives nothing of its own to those that it makes. */
+    private static void nothingHandedOut(String code) {
+        for (Class<?> one : MovingStair.class.getDeclaredClasses()) {
+            Matcher made = Pattern.compile("new " + one.getSimpleName() + "\\(([^)]*)\\)").matcher(code);
+            while (made.find()) {
+                Check.due("new " + one.getSimpleName() + " is given " + made.group(1), made.group(1).length(), 0);
+            }
         }
     }
 
