@@ -8,6 +8,7 @@ public final class CrowdTest {
         enough();
         crowds();
         changes();
+        mostWaiting();
         refused();
         Check.finish("CrowdTest");
     }
@@ -132,6 +133,21 @@ public final class CrowdTest {
         Check.due("thirty minutes", x.sides(3, 0, 1), 989);
         Check.due("thirty minutes, begins", x.begins(3, 0, 1), 1);
         Check.due("thirty minutes, no change", x.sides(3, 0, 0), 994);
+    }
+
+    /** Nobody goes by either law (2 / 9 and 10 / 81 a minute, cut), and as many come as can be told. */
+    private static void mostWaiting() {
+        MovingStair x = Check.told("stair odds 0;part steps 1 moves 1;sides stand 9 walk 9 pace 1 would 0;");
+        long[] row = new long[60];
+        for (int i = 0; i < row.length; i += 2) {
+            row[i] = 999;
+            row[i + 1] = 10;
+        }
+        Check.fill(x, 0, 1, row);
+        for (int n = 0; n <= 3; n++) {
+            Check.due("most waiting, " + n + " changes", x.sides(0, 0, n), 999 * (30 * 31 / 2));
+            Check.due("alike, " + n + " changes", x.begins(0, 0, n), 0);
+        }
     }
 
     private static void refused() {
